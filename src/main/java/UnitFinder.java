@@ -30,7 +30,7 @@ public final class UnitFinder {
         s = new Big();
         minusT = new Big();
         minusU = new Big();
-        recurrence = new Recurrence(minusU, minusT);
+        recurrence = new Recurrence();
         become(-4);
     }
 
@@ -216,30 +216,35 @@ public final class UnitFinder {
 
     private void findUnitAbove(int d) {
         int period = walkToOne(d);
+        Big foundT = recurrence.before;
+        Big foundU = recurrence.last;
         // The signs of a take turns along the ring: after an odd number of steps
         // a is -1, the ring is only half gone through, and the solution is one of -4.
         if ((period & 1) == 1) {
             ringLength = 2 * period;
-            t.setProduct(minusT, minusT);
+            minusT.copy(foundT);
+            minusU.copy(foundU);
+            t.setProduct(foundT, foundT);
             t.addSmall(2);
-            u.setProduct(minusT, minusU);
+            u.setProduct(foundT, foundU);
         } else {
             ringLength = period;
-            t.copy(minusT);
-            u.copy(minusU);
             minusT.set(0);
             minusU.set(0);
+            t.copy(foundT);
+            u.copy(foundU);
         }
     }
 
     /**
      * Goes from the ring's first form to the next one whose a is 1 or -1; answers after how many
-     * steps, and leaves the least solution of 4 or of -4 in minusT and minusU.
+     * steps, and leaves the least solution of 4 or of -4 in the recurrence: u last, t before it.
      *
      * All forms of the ring are reduced, so that |c| is always below R, and a and c have different
      * signs: c stands here for |c|, and the quotient (b + e) / 2 |c| is the next partial quotient
      * of the continued fraction of (b + R) / 2 |c|. The numerators h of these quotients give
-     * the solution when |c| comes to 1: u is the last one, t is b u + 2 h with h the one before.
+     * the solution when |c| comes to 1: u is the last one, t is u times the first b and twice the
+     * one before.
      */
     private int walkToOne(int d) {
         int root = rootOf(d);
@@ -285,9 +290,9 @@ public final class UnitFinder {
         private long lastOfBefore;
         private long beforeOfBefore;
 
-        Recurrence(Big last, Big before) {
-            this.last = last;
-            this.before = before;
+        Recurrence() {
+            last = new Big();
+            before = new Big();
         }
 
         void start() {
@@ -367,7 +372,7 @@ public final class UnitFinder {
         void copy(Big x) {
             below = x.below;
             length = x.length;
-            System.arraycopy(x.words, 0, words, 0, length);
+            System.arraycopy(x.words, 0, words, 0, x.length);
         }
 
         int signum() {
